@@ -3,18 +3,18 @@ public final class AckTest {
     private static final int ACK = 2, FIN = 4;
 
     public static void main(String[] args) {
-        Check c = new Check();
-        tooNewAndTooOld(c);
-        aNewOne(c);
-        theWindow(c);
-        theSameAgain(c);
-        notTheSame(c);
-        theFin(c);
-        c.end();
+        Check.bothWays(c -> {
+            tooNewAndTooOld(c);
+            aNewOne(c);
+            theWindow(c);
+            theSameAgain(c);
+            notTheSame(c);
+            theFin(c);
+        });
     }
 
     private static void tooNewAndTooOld(Check c) {
-        StreamWire x = Check.inState(4);
+        Wire x = Check.inState(4);
         x.write(0, 1, 8);
         Check.clear(x, 0);
         c.due("above MAX", Check.arrives(x, 500, ACK, 110, 3, 4, 1), 1);
@@ -28,7 +28,7 @@ public final class AckTest {
     }
 
     private static void aNewOne(Check c) {
-        StreamWire x = Check.slow();
+        Wire x = Check.slow();
         x.write(0, 1, 8);
         x.write(0, 1, 8);
         x.tick(5);
@@ -53,7 +53,7 @@ public final class AckTest {
 
     /** After RETRY NXT is before MAX; an ACK beyond it takes it along. */
     private static void goBackAndOn(Check c) {
-        StreamWire x = Check.inState(4);
+        Wire x = Check.inState(4);
         x.write(0, 1, 8);
         x.write(0, 1, 8);
         x.tick(2);
@@ -73,7 +73,7 @@ public final class AckTest {
     }
 
     private static void theWindow(Check c) {
-        StreamWire x = Check.inState(4);
+        Wire x = Check.inState(4);
         c.infos("of the SYN", x, 0, Check.WND, 24);
         Check.arrives(x, 510, ACK, 101, 20, 0, 0);
         c.infos("none did before", x, 0, Check.WND, 20);
@@ -99,7 +99,7 @@ public final class AckTest {
     }
 
     private static void notBelowZero(Check c) {
-        StreamWire x = Check.inState(4);
+        Wire x = Check.inState(4);
         x.write(0, 1, 8);
         Check.arrives(x, 510, ACK, 101, 3, 0, 0);
         Check.arrives(x, 505, ACK, 109, 9, 0, 0);
@@ -108,7 +108,7 @@ public final class AckTest {
 
     /** An ACK that is older than the one that set WND, with the same SEQ, but still from UNA on. */
     private static void theFirstAckOfTheSyn(Check c) {
-        StreamWire x = Check.inState(3);
+        Wire x = Check.inState(3);
         Check.arrives(x, 500, ACK, 101, 17, 0, 0);
         c.infos("SYN_RECEIVED, too", x, 0, Check.WND, 17);
         x = Check.inState(3);
@@ -118,8 +118,8 @@ public final class AckTest {
         c.infos("17 - 4", x, 0, Check.WND, 13, Check.UNA, 105);
     }
 
-    private static StreamWire threePieces() {
-        StreamWire x = Check.inState(4);
+    private static Wire threePieces() {
+        Wire x = Check.inState(4);
         x.write(0, 1, 1);
         Check.arrives(x, 500, ACK, 102, 24, 0, 0);
         for (int i = 0; i < 3; i++) {
@@ -130,7 +130,7 @@ public final class AckTest {
     }
 
     private static void theSameAgain(Check c) {
-        StreamWire x = threePieces();
+        Wire x = threePieces();
         c.infos("24 on their way", x, 0, Check.UNA, 102, Check.NXT, 126, Check.PEAK, 24, Check.WND, 24);
         c.due("1", Check.arrives(x, 500, ACK, 102, 24, 0, 0), 0);
         c.due("2", Check.arrives(x, 500, ACK, 102, 24, 0, 0), 0);
@@ -153,7 +153,7 @@ public final class AckTest {
     }
 
     private static void twoAreNotThree(Check c) {
-        StreamWire x = threePieces();
+        Wire x = threePieces();
         Check.arrives(x, 500, ACK, 102, 24, 0, 0);
         Check.arrives(x, 500, ACK, 102, 24, 0, 0);
         Check.arrives(x, 500, ACK, 103, 24, 0, 0);
@@ -174,7 +174,7 @@ public final class AckTest {
     }
 
     private static void shortPiecesAndTheFin(Check c) {
-        StreamWire x = Check.inState(4);
+        Wire x = Check.inState(4);
         Check.arrives(x, 500, ACK, 101, 24, 0, 0);
         x.write(0, 0x030201, 3);
         x.write(0, 0x060504, 3);
@@ -202,7 +202,7 @@ public final class AckTest {
     }
 
     private static void notTheSame(Check c) {
-        StreamWire x = threePieces();
+        Wire x = threePieces();
         int rcv = 500;
         for (int i = 0; i < 4; i++) {
             Check.arrives(x, rcv, ACK, 102, 24, 1, 0);
@@ -221,7 +221,7 @@ public final class AckTest {
     }
 
     private static void theFin(Check c) {
-        StreamWire x = Check.inState(5);
+        Wire x = Check.inState(5);
         Check.arrives(x, 500, ACK, 102, 24, 3, 1);
         c.due("5 becomes 6", x.state(0), 6);
         c.infos("its bytes are taken", x, 0, Check.UNREAD, 3, Check.RETRY, -1);

@@ -3,20 +3,20 @@ public final class ArriveTest {
     private static final int SYN = 1, ACK = 2, FIN = 4, RST = 8;
 
     public static void main(String[] args) {
-        Check c = new Check();
-        inClosed(c);
-        inListen(c);
-        inSynSent(c);
-        atOnce(c);
-        acceptable(c);
-        rstAndSyn(c);
-        inSynReceived(c);
-        fromOpeningToTheEnd(c);
-        c.end();
+        Check.bothWays(c -> {
+            inClosed(c);
+            inListen(c);
+            inSynSent(c);
+            atOnce(c);
+            acceptable(c);
+            rstAndSyn(c);
+            inSynReceived(c);
+            fromOpeningToTheEnd(c);
+        });
     }
 
     private static void inClosed(Check c) {
-        StreamWire x = new StreamWire();
+        Wire x = new Wire();
         c.due("RST", Check.arrives(x, 1, RST, 0, 0, 0, 0), 0);
         c.due("RST and more", Check.arrives(x, 1, RST | ACK | SYN, 9, 0, 0, 0), 0);
         c.due("ACK", Check.arrives(x, 7, ACK | SYN, 9, 5, 2, 0), 1);
@@ -31,7 +31,7 @@ public final class ArriveTest {
     }
 
     private static void inListen(Check c) {
-        StreamWire x = Check.inState(1);
+        Wire x = Check.inState(1);
         c.due("RST", Check.arrives(x, 1, RST, 0, 0, 0, 0), 0);
         c.due("RST, SYN", Check.arrives(x, 1, RST | SYN, 0, 0, 0, 0), 0);
         c.due("RST, ACK", Check.arrives(x, 1, RST | ACK, 3, 0, 0, 0), 0);
@@ -48,7 +48,7 @@ public final class ArriveTest {
     }
 
     private static void inSynSent(Check c) {
-        StreamWire x = Check.inState(2);
+        Wire x = Check.inState(2);
         c.due("ACK too low", Check.arrives(x, 1, SYN | ACK, 100, 5, 0, 0), 1);
         c.segment("a RST", x, 0, 0, Check.head(100, RST, 0, 0));
         c.due("ACK too high", Check.arrives(x, 1, ACK, 102, 5, 0, 0), 1);
@@ -74,7 +74,7 @@ public final class ArriveTest {
 
     /** Both ends open actively: each gets a SYN without ACK. */
     private static void atOnce(Check c) {
-        StreamWire x = new StreamWire();
+        Wire x = new Wire();
         x.open(0, true, 100);
         x.open(1, true, 500);
         x.write(0, 0x0201, 2);
@@ -97,7 +97,7 @@ public final class ArriveTest {
     }
 
     private static void acceptable(Check c) {
-        StreamWire x = Check.inState(4);
+        Wire x = Check.inState(4);
         Check.arrives(x, 500, ACK, 101, 24, 4, 1);
         x.tick(2);
         Check.clear(x, 0);
@@ -138,7 +138,7 @@ public final class ArriveTest {
     }
 
     private static void inTimeWait(Check c) {
-        StreamWire x = Check.inState(10);
+        Wire x = Check.inState(10);
         x.tick(5);
         c.due("the FIN again", Check.arrives(x, 500, FIN | ACK, 102, 24, 0, 0), 1);
         c.segment("an ACK", x, 0, 0, Check.head(102, ACK, 501, 24));
@@ -162,7 +162,7 @@ public final class ArriveTest {
     private static void rstAndSyn(Check c) {
         for (int s = 3; s <= 10; s++) {
             int rcv = s == 3 ? 500 : s <= 6 ? 500 : 501;
-            StreamWire x = Check.inState(s);
+            Wire x = Check.inState(s);
             c.due("a RST in the window in state " + s, Check.arrives(x, rcv + 1, RST, 0, 0, 0, 0), 1);
             c.due("is answered with an ACK", x.wire(0, 0, 1), ACK);
             c.due("a RST outside", Check.arrives(x, rcv - 1, RST, 0, 0, 0, 0), 0);
@@ -180,7 +180,7 @@ public final class ArriveTest {
     }
 
     private static void inSynReceived(Check c) {
-        StreamWire x = Check.inState(3);
+        Wire x = Check.inState(3);
         c.due("ACK 100", Check.arrives(x, 500, ACK, 100, 24, 0, 0), 1);
         c.segment("a RST", x, 0, 0, Check.head(100, RST, 0, 0));
         c.due("ACK 102", Check.arrives(x, 500, ACK, 102, 24, 0, 0), 1);
@@ -197,7 +197,7 @@ public final class ArriveTest {
     }
 
     private static void fromOpeningToTheEnd(Check c) {
-        StreamWire x = Check.connected(65535, 65534);
+        Wire x = Check.connected(65535, 65534);
         c.due("both close", x.close(0), 5);
         c.due("both close", x.close(1), 5);
         c.due("FIN meets FIN", x.deliver(0, 0), 1);

@@ -1,19 +1,19 @@
 /** FLOW, and what an end SENDS. */
 public final class FlowTest {
     public static void main(String[] args) {
-        Check c = new Check();
-        smallPiecesWait(c);
-        peakLimits(c);
-        windowLimits(c);
-        aClosedWindow(c);
-        theFinNeedsRoom(c);
-        whatIsTimed(c);
-        sentBytesCarryTheAck(c);
-        c.end();
+        Check.bothWays(c -> {
+            smallPiecesWait(c);
+            peakLimits(c);
+            windowLimits(c);
+            aClosedWindow(c);
+            theFinNeedsRoom(c);
+            whatIsTimed(c);
+            sentBytesCarryTheAck(c);
+        });
     }
 
     private static void smallPiecesWait(Check c) {
-        StreamWire x = Check.inState(4);
+        Wire x = Check.inState(4);
         x.write(0, 1, 1);
         c.due("nothing is on its way: sent at once", x.wire(0, 0, -1), 1);
         x.write(0, 2, 3);
@@ -29,7 +29,7 @@ public final class FlowTest {
     }
 
     private static void peakLimits(Check c) {
-        StreamWire x = Check.inState(4);
+        Wire x = Check.inState(4);
         x.write(0, 1, 8);
         x.write(0, 1, 8);
         x.write(0, 1, 8);
@@ -41,7 +41,7 @@ public final class FlowTest {
     }
 
     private static void windowLimits(Check c) {
-        StreamWire x = Check.inState(4);
+        Wire x = Check.inState(4);
         Check.arrives(x, 500, 2, 101, 5, 0, 0);
         x.write(0, 0x0807060504030201L, 8);
         c.due("a piece of 5, as nothing is on its way", x.wire(0, 0, 4), 5);
@@ -59,7 +59,7 @@ public final class FlowTest {
     }
 
     private static void aClosedWindow(Check c) {
-        StreamWire x = Check.inState(4);
+        Wire x = Check.inState(4);
         Check.arrives(x, 500, 2, 101, 0, 0, 0);
         c.infos("nothing to send", x, 0, Check.WND, 0, Check.RETRY, -1);
         x.write(0, 0x0A09, 2);
@@ -88,16 +88,14 @@ public final class FlowTest {
     }
 
     private static void theProbeIsAnswered(Check c) {
-        StreamWire x = Check.connected(100, 500);
+        Wire x = Check.connected(100, 500);
         for (int i = 0; i < 3; i++) {
             x.write(0, 1, 8);
-            while (x.deliver(0, 0) >= 0) {
-                Check.clear(x, 0);
-            }
+            x.deliver(0, 0);
             x.tick(2);
             Check.clear(x, 0);
-            while (x.deliver(1, 0) >= 0) {
-                x.state(0);
+            for (int left = x.wire(1, 0, -1); left > 0; left--) {
+                x.deliver(1, 0);
             }
         }
         c.infos("end 1 is full", x, 1, Check.UNREAD, 24);
@@ -117,7 +115,7 @@ public final class FlowTest {
     }
 
     private static void theFinNeedsRoom(Check c) {
-        StreamWire x = Check.inState(4);
+        Wire x = Check.inState(4);
         Check.arrives(x, 500, 2, 101, 8, 0, 0);
         x.write(0, 1, 8);
         x.close(0);
@@ -129,7 +127,7 @@ public final class FlowTest {
     }
 
     private static void whatIsTimed(Check c) {
-        StreamWire x = Check.inState(4);
+        Wire x = Check.inState(4);
         Check.arrives(x, 500, 2, 101, 24, 0, 0);
         x.write(0, 1, 8);
         x.tick(1);
@@ -153,7 +151,7 @@ public final class FlowTest {
         Check.arrives(x, 500, 2, 102, 24, 0, 0);
         c.infos("7 + 17", x, 0, Check.RTO, 24);
         // S 120 at first, V 30: 15 + 30; the SYN came back just before it would go again twice.
-        x = new StreamWire();
+        x = new Wire();
         x.open(0, true, 100);
         x.tick(7);
         Check.arrives(x, 499, 3, 101, 24, 0, 0);
@@ -176,7 +174,7 @@ public final class FlowTest {
     }
 
     private static void sentBytesCarryTheAck(Check c) {
-        StreamWire x = Check.inState(4);
+        Wire x = Check.inState(4);
         Check.arrives(x, 500, 2, 101, 24, 3, 1);
         c.infos("an ACK waits", x, 0, Check.WAITS, 1);
         x.write(0, 1, 1);

@@ -3,20 +3,20 @@ public final class OrderTest {
     private static final int ACK = 2, FIN = 4;
 
     public static void main(String[] args) {
-        Check c = new Check();
-        acksThatWait(c);
-        bytesOutOfOrder(c);
-        theWindowCuts(c);
-        theFirstByteWins(c);
-        aHeldFin(c);
-        aFinOverBytes(c);
-        finInEachState(c);
-        noMoreBytesBehindTheFin(c);
-        c.end();
+        Check.bothWays(c -> {
+            acksThatWait(c);
+            bytesOutOfOrder(c);
+            theWindowCuts(c);
+            theFirstByteWins(c);
+            aHeldFin(c);
+            aFinOverBytes(c);
+            finInEachState(c);
+            noMoreBytesBehindTheFin(c);
+        });
     }
 
     private static void acksThatWait(Check c) {
-        StreamWire x = Check.inState(4);
+        Wire x = Check.inState(4);
         c.due("the first waits", Check.arrives(x, 500, ACK, 101, 24, 2, 1), 0);
         c.infos("waits", x, 0, Check.WAITS, 1, Check.RCV, 502);
         c.due("for 2 ticks", x.tick(1), 0);
@@ -34,7 +34,7 @@ public final class OrderTest {
     }
 
     private static void bytesOutOfOrder(Check c) {
-        StreamWire x = Check.inState(4);
+        Wire x = Check.inState(4);
         c.due("behind a gap: at once", Check.arrives(x, 504, ACK, 101, 24, 2, 14), 1);
         c.segment("RCV stays", x, 0, 0, Check.head(101, ACK, 500, 24));
         c.infos("held", x, 0, Check.HELD, 1, Check.UNREAD, 0);
@@ -47,7 +47,7 @@ public final class OrderTest {
     }
 
     private static void theWindowCuts(Check c) {
-        StreamWire x = Check.inState(4);
+        Wire x = Check.inState(4);
         Check.arrives(x, 500, ACK, 101, 24, 8, 0);
         Check.arrives(x, 508, ACK, 101, 24, 8, 8);
         Check.arrives(x, 516, ACK, 101, 24, 4, 16);
@@ -72,7 +72,7 @@ public final class OrderTest {
     }
 
     private static void overTheWrap(Check c) {
-        StreamWire x = new StreamWire();
+        Wire x = new Wire();
         x.open(0, true, 65530);
         Check.arrives(x, 65531, 3, 65531, 24, 0, 0);
         Check.arrives(x, 2, ACK, 65531, 24, 4, 7);
@@ -88,7 +88,7 @@ public final class OrderTest {
     }
 
     private static void theFirstByteWins(Check c) {
-        StreamWire x = Check.inState(4);
+        Wire x = Check.inState(4);
         Check.arrives(x, 502, ACK, 101, 24, 2, 50);
         Check.arrives(x, 501, ACK, 101, 24, 5, 90);
         Check.arrives(x, 500, ACK, 101, 24, 2, 10);
@@ -96,7 +96,7 @@ public final class OrderTest {
     }
 
     private static void aHeldFin(Check c) {
-        StreamWire x = Check.inState(4);
+        Wire x = Check.inState(4);
         c.due("a FIN behind a gap", Check.arrives(x, 503, ACK | FIN, 101, 24, 0, 0), 1);
         c.infos("held", x, 0, Check.HELD, 1, Check.RCV, 500);
         c.due("state", x.state(0), 4);
@@ -110,7 +110,7 @@ public final class OrderTest {
     }
 
     private static void aFinOverBytes(Check c) {
-        StreamWire x = Check.inState(4);
+        Wire x = Check.inState(4);
         Check.arrives(x, 502, ACK, 101, 24, 8, 30);
         Check.arrives(x, 504, ACK | FIN, 101, 24, 0, 0);
         c.infos("held where a byte is", x, 0, Check.HELD, 1, Check.RCV, 500);
@@ -128,7 +128,7 @@ public final class OrderTest {
     private static void finInEachState(Check c) {
         int[] becomes = {0, 0, 0, 0, 7, 8, 10};
         for (int s = 4; s <= 6; s++) {
-            StreamWire x = Check.inState(s);
+            Wire x = Check.inState(s);
             x.tick(1);
             int una = x.info(0, Check.UNA);
             c.due("an ACK at once in state " + s, Check.arrives(x, 500, ACK | FIN, una, 24, 3, 1), 1);
@@ -136,7 +136,7 @@ public final class OrderTest {
             c.due("RCV is behind it", x.wire(0, 0, 2), 504);
             c.infos("bytes", x, 0, Check.UNREAD, 3);
         }
-        StreamWire x = Check.inState(6);
+        Wire x = Check.inState(6);
         Check.arrives(x, 500, ACK | FIN, 102, 24, 0, 0);
         x.tick(19);
         c.due("WAIT is 20", x.state(0), 10);
@@ -146,7 +146,7 @@ public final class OrderTest {
 
     private static void noMoreBytesBehindTheFin(Check c) {
         for (int s = 7; s <= 10; s++) {
-            StreamWire x = Check.inState(s);
+            Wire x = Check.inState(s);
             int una = x.info(0, Check.UNA);
             c.due("an ACK at once in state " + s, Check.arrives(x, 501, ACK, una, 24, 3, 1), 1);
             c.infos("nothing is taken in state " + s, x, 0, Check.RCV, 501, Check.UNREAD, 0, Check.HELD, 0, Check.WAITS, 0);

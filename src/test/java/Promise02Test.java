@@ -1,16 +1,16 @@
 /** Promise 2: open. */
 public final class Promise02Test {
     public static void main(String[] args) {
-        Check c = new Check();
-        active(c);
-        passive(c);
-        wrongInputs(c);
-        again(c);
-        c.end();
+        Check.bothWays(c -> {
+            active(c);
+            passive(c);
+            wrongInputs(c);
+            again(c);
+        });
     }
 
     private static void active(Check c) {
-        StreamWire x = new StreamWire();
+        Wire x = new Wire();
         x.tick(5);
         c.due("active", x.open(0, true, 100), 2);
         c.segment("the SYN", x, 0, 0, Check.head(100, 1, 0, 24));
@@ -23,7 +23,7 @@ public final class Promise02Test {
     }
 
     private static void passive(Check c) {
-        StreamWire x = new StreamWire();
+        Wire x = new Wire();
         c.due("passive", x.open(1, false, 0), 1);
         c.due("state", x.state(1), 1);
         c.due("nothing is sent", x.wire(1, 0, -1), 0);
@@ -33,7 +33,7 @@ public final class Promise02Test {
     }
 
     private static void wrongInputs(Check c) {
-        StreamWire x = new StreamWire();
+        Wire x = new Wire();
         c.due("end -1", x.open(-1, true, 1), -1);
         c.due("end 2", x.open(2, false, 1), -1);
         c.due("iss -1", x.open(0, true, -1), -1);
@@ -41,7 +41,7 @@ public final class Promise02Test {
         c.due("still CLOSED", x.state(0), 0);
         c.due("nothing was sent", x.wire(0, 0, -1), 0);
         for (int s = 1; s <= 10; s++) {
-            StreamWire y = Check.inState(s);
+            Wire y = Check.inState(s);
             c.due("state " + s, y.state(0), s);
             c.due("open in state " + s, y.open(0, true, 7), -1);
             c.due("open in state " + s, y.open(0, false, 7), -1);
@@ -51,7 +51,7 @@ public final class Promise02Test {
 
     /** An end that was used begins anew; the link and the time go on. */
     private static void again(Check c) {
-        StreamWire x = Check.slow();
+        Wire x = Check.slow();
         Check.arrives(x, 500, 2, 101, 24, 3, 1);
         Check.arrives(x, 510, 2, 101, 0, 2, 9);
         x.write(0, 1, 8);

@@ -1,30 +1,30 @@
 /** Promise 4: read. */
 public final class Promise04Test {
     public static void main(String[] args) {
-        Check c = new Check();
-        for (int s = 0; s <= 10; s++) {
-            StreamWire x = Check.inState(s);
-            c.due("nothing to read in state " + s, x.read(0, 7), s == 0 || s >= 7 ? -1 : 0);
-        }
-        StreamWire x = Check.inState(4);
-        c.due("end -1", x.read(-1, 1), -1);
-        c.due("end 2", x.read(2, 1), -1);
-        Check.arrives(x, 500, 2, 101, 24, 8, 250);
-        c.due("n 0", x.read(0, 0), -1);
-        c.due("n 8", x.read(0, 8), -1);
-        c.due("n -1", x.read(0, -1), -1);
-        c.infos("nothing was taken", x, 0, Check.UNREAD, 8);
-        c.due("two", x.read(0, 2), (2L << 56) + 250 + 251 * 256L);
-        c.due("the most", x.read(0, 7), (6L << 56) + 0x0100FFFEFDFCL);
-        c.due("none", x.read(0, 7), 0);
-        theWindowOpens(c);
-        afterTheFin(c);
-        afterTheEnd(c);
-        c.end();
+        Check.bothWays(c -> {
+            for (int s = 0; s <= 10; s++) {
+                Wire x = Check.inState(s);
+                c.due("nothing to read in state " + s, x.read(0, 7), s == 0 || s >= 7 ? -1 : 0);
+            }
+            Wire x = Check.inState(4);
+            c.due("end -1", x.read(-1, 1), -1);
+            c.due("end 2", x.read(2, 1), -1);
+            Check.arrives(x, 500, 2, 101, 24, 8, 250);
+            c.due("n 0", x.read(0, 0), -1);
+            c.due("n 8", x.read(0, 8), -1);
+            c.due("n -1", x.read(0, -1), -1);
+            c.infos("nothing was taken", x, 0, Check.UNREAD, 8);
+            c.due("two", x.read(0, 2), (2L << 56) + 250 + 251 * 256L);
+            c.due("the most", x.read(0, 7), (6L << 56) + 0x0100FFFEFDFCL);
+            c.due("none", x.read(0, 7), 0);
+            theWindowOpens(c);
+            afterTheFin(c);
+            afterTheEnd(c);
+        });
     }
 
     private static void theWindowOpens(Check c) {
-        StreamWire x = Check.inState(4);
+        Wire x = Check.inState(4);
         Check.arrives(x, 500, 2, 101, 24, 8, 0);
         Check.arrives(x, 508, 2, 101, 24, 8, 8);
         Check.arrives(x, 516, 2, 101, 24, 8, 16);
@@ -38,7 +38,7 @@ public final class Promise04Test {
         x.read(0, 7);
         c.due("a wider one is not", x.wire(0, 0, -1), 1);
         for (int s = 5; s <= 10; s++) {
-            StreamWire y = Check.inState(4);
+            Wire y = Check.inState(4);
             Check.arrives(y, 500, 2, 101, 24, 8, 0);
             Check.arrives(y, 508, 2, 101, 24, 8, 8);
             Check.arrives(y, 516, 2, 101, 24, 1, 16);
@@ -65,7 +65,7 @@ public final class Promise04Test {
     }
 
     private static void afterTheFin(Check c) {
-        StreamWire x = Check.inState(4);
+        Wire x = Check.inState(4);
         Check.arrives(x, 501, 6, 101, 24, 0, 0);
         c.infos("the FIN is held", x, 0, Check.HELD, 1, Check.RCV, 500);
         c.due("a held FIN did not come", x.read(0, 7), 0);
@@ -76,7 +76,7 @@ public final class Promise04Test {
     }
 
     private static void afterTheEnd(Check c) {
-        StreamWire x = Check.inState(4);
+        Wire x = Check.inState(4);
         Check.arrives(x, 500, 2, 101, 24, 8, 10);
         Check.arrives(x, 508, 2, 101, 24, 8, 18);
         Check.arrives(x, 516, 2, 101, 24, 2, 26);

@@ -1,33 +1,33 @@
 /** Promise 5: close. */
 public final class Promise05Test {
     public static void main(String[] args) {
-        Check c = new Check();
-        int[] becomes = {-1, 0, 0, -1, 5, -1, -1, 9, -1, -1, -1};
-        for (int s = 0; s <= 10; s++) {
-            StreamWire x = Check.inState(s);
-            c.due("close in state " + s, x.close(0), becomes[s]);
-            c.due("then state", x.state(0), becomes[s] == -1 ? s : becomes[s]);
-            boolean fin = s == 4 || s == 7;
-            c.due("segments", x.wire(0, 0, -1), fin ? 1 : 0);
-            if (fin) {
-                c.segment("the FIN", x, 0, 0, Check.head(101, 6, s == 4 ? 500 : 501, 24));
-                c.infos("behind the FIN", x, 0, Check.UNA, 101, Check.NXT, 102, Check.KEPT, 0, Check.RETRY, 2);
+        Check.bothWays(c -> {
+            int[] becomes = {-1, 0, 0, -1, 5, -1, -1, 9, -1, -1, -1};
+            for (int s = 0; s <= 10; s++) {
+                Wire x = Check.inState(s);
+                c.due("close in state " + s, x.close(0), becomes[s]);
+                c.due("then state", x.state(0), becomes[s] == -1 ? s : becomes[s]);
+                boolean fin = s == 4 || s == 7;
+                c.due("segments", x.wire(0, 0, -1), fin ? 1 : 0);
+                if (fin) {
+                    c.segment("the FIN", x, 0, 0, Check.head(101, 6, s == 4 ? 500 : 501, 24));
+                    c.infos("behind the FIN", x, 0, Check.UNA, 101, Check.NXT, 102, Check.KEPT, 0, Check.RETRY, 2);
+                }
             }
-        }
-        StreamWire x = new StreamWire();
-        c.due("end -1", x.close(-1), -1);
-        c.due("end 2", x.close(2), -1);
-        x = Check.inState(2);
-        x.write(0, 1, 8);
-        x.close(0);
-        c.infos("nothing is kept or set", x, 0, Check.KEPT, 0, Check.RETRY, -1, Check.ERROR, 0);
-        c.due("nothing is sent again", x.tick(100), 0);
-        theFinWaitsForTheBytes(c);
-        c.end();
+            Wire x = new Wire();
+            c.due("end -1", x.close(-1), -1);
+            c.due("end 2", x.close(2), -1);
+            x = Check.inState(2);
+            x.write(0, 1, 8);
+            x.close(0);
+            c.infos("nothing is kept or set", x, 0, Check.KEPT, 0, Check.RETRY, -1, Check.ERROR, 0);
+            c.due("nothing is sent again", x.tick(100), 0);
+            theFinWaitsForTheBytes(c);
+        });
     }
 
     private static void theFinWaitsForTheBytes(Check c) {
-        StreamWire x = Check.inState(4);
+        Wire x = Check.inState(4);
         x.write(0, 0x0807060504030201L, 8);
         x.write(0, 0x0C0B0A09L, 4);
         c.due("the 4 bytes wait for the ACK", x.wire(0, 0, -1), 1);

@@ -1,31 +1,31 @@
 /** Promise 7: deliver. What comes of the segment is in the tests of the terms. */
 public final class Promise07Test {
     public static void main(String[] args) {
-        Check c = new Check();
-        StreamWire x = Check.connected(100, 500);
-        c.due("an empty row", x.deliver(0, 0), -1);
-        c.due("end -1", x.deliver(-1, 0), -1);
-        c.due("end 2", x.deliver(2, 0), -1);
-        x.write(0, 1, 8);
-        x.write(0, 2, 8);
-        c.due("k -1", x.deliver(0, -1), -1);
-        c.due("k 2 of 2", x.deliver(0, 2), -1);
-        c.due("the other row", x.deliver(1, 0), -1);
-        c.due("both are still there", x.wire(0, 0, -1), 2);
-        c.due("the second one", x.deliver(0, 1), 1);
-        c.due("is out of the row", x.wire(0, 0, -1), 1);
-        c.due("the first one stays", x.wire(0, 0, 0), 101);
-        c.infos("it came to end 1", x, 1, Check.HELD, 1, Check.RCV, 101);
-        c.due("the first one", x.deliver(0, 0), 1);
-        c.infos("in order again", x, 1, Check.HELD, 0, Check.RCV, 117, Check.UNREAD, 16);
-        c.due("the row is empty", x.wire(0, 0, -1), 0);
-        lostOnesCount(c);
-        thoseBehindMoveUp(c);
-        c.end();
+        Check.bothWays(c -> {
+            Wire x = Check.connected(100, 500);
+            c.due("an empty row", x.deliver(0, 0), -1);
+            c.due("end -1", x.deliver(-1, 0), -1);
+            c.due("end 2", x.deliver(2, 0), -1);
+            x.write(0, 1, 8);
+            x.write(0, 2, 8);
+            c.due("k -1", x.deliver(0, -1), -1);
+            c.due("k 2 of 2", x.deliver(0, 2), -1);
+            c.due("the other row", x.deliver(1, 0), -1);
+            c.due("both are still there", x.wire(0, 0, -1), 2);
+            c.due("the second one", x.deliver(0, 1), 1);
+            c.due("is out of the row", x.wire(0, 0, -1), 1);
+            c.due("the first one stays", x.wire(0, 0, 0), 101);
+            c.infos("it came to end 1", x, 1, Check.HELD, 1, Check.RCV, 101);
+            c.due("the first one", x.deliver(0, 0), 1);
+            c.infos("in order again", x, 1, Check.HELD, 0, Check.RCV, 117, Check.UNREAD, 16);
+            c.due("the row is empty", x.wire(0, 0, -1), 0);
+            lostOnesCount(c);
+            thoseBehindMoveUp(c);
+        });
     }
 
     private static void lostOnesCount(Check c) {
-        StreamWire x = Check.inState(4);
+        Wire x = Check.inState(4);
         for (int i = 0; i < 14; i++) {
             x.forge(0, i, 2, 0, 0, 0, 0);
         }
@@ -42,7 +42,7 @@ public final class Promise07Test {
     }
 
     private static void thoseBehindMoveUp(Check c) {
-        StreamWire x = new StreamWire();
+        Wire x = new Wire();
         for (int i = 0; i < 16; i++) {
             x.forge(0, 1000 + i, 8, 0, i, i % 9, 10 * i);
         }

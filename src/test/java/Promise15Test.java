@@ -1,24 +1,24 @@
 /** Promise 15: order and limits. */
 public final class Promise15Test {
     public static void main(String[] args) {
-        Check c = new Check();
-        noSuchEnd(c);
-        rounding(c);
-        whatASynBrings(c);
-        StreamWire x = new StreamWire();
-        for (int i = 0; i < 16; i++) {
-            x.forge(0, 1, 2, 1, 1, 0, 0);
-        }
-        c.due("forge: REFUSED before FULL", x.forge(0, 65536, 2, 1, 1, 0, 0), -1);
-        c.due("forge: FULL", x.forge(0, 65535, 2, 1, 1, 0, 0), -2);
-        c.due("twice: REFUSED before FULL", x.twice(0, 16), -1);
-        c.due("twice: FULL", x.twice(0, 15), -2);
-        c.end();
+        Check.bothWays(c -> {
+            noSuchEnd(c);
+            rounding(c);
+            whatASynBrings(c);
+            Wire x = new Wire();
+            for (int i = 0; i < 16; i++) {
+                x.forge(0, 1, 2, 1, 1, 0, 0);
+            }
+            c.due("forge: REFUSED before FULL", x.forge(0, 65536, 2, 1, 1, 0, 0), -1);
+            c.due("forge: FULL", x.forge(0, 65535, 2, 1, 1, 0, 0), -2);
+            c.due("twice: REFUSED before FULL", x.twice(0, 16), -1);
+            c.due("twice: FULL", x.twice(0, 15), -2);
+        });
     }
 
     private static void noSuchEnd(Check c) {
         int[] ends = {-1, 2, Integer.MIN_VALUE, Integer.MAX_VALUE};
-        StreamWire x = Check.inState(4);
+        Wire x = Check.inState(4);
         for (int e : ends) {
             c.due("open", x.open(e, true, 1), -1);
             c.due("write", x.write(e, 1, 1), -1);
@@ -38,7 +38,7 @@ public final class Promise15Test {
 
     private static void rounding(Check c) {
         // 64 / PEAK: HALF is 8 and PEAK 8 after RETRY, then 16, 20 (64 / 16), 23 (64 / 20 is 3), 25, 27, ..
-        StreamWire x = Check.inState(4);
+        Wire x = Check.inState(4);
         x.write(0, 1, 8);
         x.write(0, 1, 8);
         x.tick(2);
@@ -60,7 +60,7 @@ public final class Promise15Test {
     }
 
     private static void halfOfAnOddOffset(Check c) {
-        StreamWire x = Check.inState(4);
+        Wire x = Check.inState(4);
         x.write(0, 1, 8);
         Check.arrives(x, 500, 2, 109, 24, 0, 0);
         for (int i = 0; i < 3; i++) {
@@ -76,7 +76,7 @@ public final class Promise15Test {
     }
 
     private static void whatASynBrings(Check c) {
-        StreamWire x = Check.inState(2);
+        Wire x = Check.inState(2);
         Check.arrives(x, 499, 7, 101, 24, 8, 1);
         c.due("SYN_SENT", x.state(0), 4);
         c.infos("nothing of its bytes and its FIN", x, 0, Check.RCV, 500, Check.UNREAD, 0, Check.HELD, 0);

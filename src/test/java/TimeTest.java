@@ -3,20 +3,20 @@ public final class TimeTest {
     private static final int SYN = 1, ACK = 2, FIN = 4;
 
     public static void main(String[] args) {
-        Check c = new Check();
-        theSynAgain(c);
-        theBytesAgain(c);
-        givingUp(c);
-        aClosedWindow(c);
-        theFinAgain(c);
-        moreThanBefore(c);
-        endZeroFirst(c);
-        aRetryBringsTheAck(c);
-        c.end();
+        Check.bothWays(c -> {
+            theSynAgain(c);
+            theBytesAgain(c);
+            givingUp(c);
+            aClosedWindow(c);
+            theFinAgain(c);
+            moreThanBefore(c);
+            endZeroFirst(c);
+            aRetryBringsTheAck(c);
+        });
     }
 
     private static void theSynAgain(Check c) {
-        StreamWire x = new StreamWire();
+        Wire x = new Wire();
         x.open(0, true, 100);
         c.due("before", x.tick(7), 0);
         c.due("at 8", x.tick(1), 1);
@@ -30,7 +30,7 @@ public final class TimeTest {
     }
 
     private static void theBytesAgain(Check c) {
-        StreamWire x = Check.slow();
+        Wire x = Check.slow();
         x.write(0, 0x0807060504030201L, 8);
         x.write(0, 0x0807060504030201L, 8);
         Check.clear(x, 0);
@@ -48,7 +48,7 @@ public final class TimeTest {
     }
 
     private static void givingUp(Check c) {
-        StreamWire x = Check.inState(4);
+        Wire x = Check.inState(4);
         Check.arrives(x, 500, ACK, 101, 24, 2, 5);
         x.write(0, 1, 1);
         Check.arrives(x, 505, ACK, 101, 24, 2, 5);
@@ -66,7 +66,7 @@ public final class TimeTest {
 
     /** WND 0 with bytes on their way: the FIRST piece goes, NXT stays UNA. */
     private static void aClosedWindow(Check c) {
-        StreamWire x = Check.inState(4);
+        Wire x = Check.inState(4);
         x.write(0, 0x0807060504030201L, 8);
         x.write(0, 0x1817161514131211L, 8);
         Check.clear(x, 0);
@@ -82,7 +82,7 @@ public final class TimeTest {
     private static void theFinAgain(Check c) {
         int[] states = {5, 8, 9};
         for (int s : states) {
-            StreamWire x = Check.inState(s);
+            Wire x = Check.inState(s);
             int rcv = s == 5 ? 500 : 501;
             c.due("the FIN again in state " + s, x.tick(2), 1);
             c.segment("the FIN", x, 0, 0, Check.head(101, ACK | FIN, rcv, 24));
@@ -95,14 +95,14 @@ public final class TimeTest {
             c.due("over", x.state(0), 0);
             c.infos("error 2", x, 0, Check.ERROR, 2);
         }
-        StreamWire x = Check.inState(6);
+        Wire x = Check.inState(6);
         c.due("nothing to send again in FIN_WAIT_2", x.tick(1000), 0);
         c.due("which waits for ever", x.state(0), 6);
     }
 
     /** What was written since goes along when a short piece is sent again; MAX moves then. */
     private static void moreThanBefore(Check c) {
-        StreamWire x = Check.inState(4);
+        Wire x = Check.inState(4);
         x.write(0, 0x0201, 2);
         x.write(0, 0x0403, 2);
         Check.clear(x, 0);
@@ -117,7 +117,7 @@ public final class TimeTest {
 
     /** Both ends send in the same tick; what end 0 sends is not yet there for end 1. */
     private static void endZeroFirst(Check c) {
-        StreamWire x = Check.connected(100, 500);
+        Wire x = Check.connected(100, 500);
         x.write(0, 1, 1);
         x.write(1, 2, 1);
         c.due("both", x.tick(2), 2);
@@ -126,7 +126,7 @@ public final class TimeTest {
     }
 
     private static void aRetryBringsTheAck(Check c) {
-        StreamWire x = Check.inState(4);
+        Wire x = Check.inState(4);
         x.write(0, 1, 1);
         Check.arrives(x, 500, ACK, 101, 24, 1, 1);
         c.infos("waits", x, 0, Check.WAITS, 1, Check.RETRY, 2);
