@@ -304,7 +304,11 @@ public final class EdgeLinkCallsTest {
         String before = Check.picture(x);
         int[] ns = {0, -1, 1001, 2000, Integer.MIN_VALUE, Integer.MAX_VALUE};
         for (int n : ns) {
-            c.due("n " + n, x.tick(n), -1);
+            int got = x.tick(n);
+            c.due("n " + n, got, -1);
+            if (got != -1) {
+                return; // The next ones would take minutes.
+            }
         }
         c.unchanged("tick", x, before);
     }
