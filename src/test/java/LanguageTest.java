@@ -35,7 +35,7 @@ import javax.tools.ToolProvider;
 
 /**
  * The source of StreamWire keeps to the rules of LANGUAGE.md, as far as they can be seen from its tree; the
- * public face is in FaceTest, and that no call throws (rule 7) in ModelTest. Runs from the project's folder.
+ * public face is in FaceTest, and that no call throws (rule 7) in AnyCallTest. Runs from the project's folder.
  */
 public final class LanguageTest extends TreeScanner<Void, Void> {
     private static final Path SOURCE = Path.of("src/main/java/StreamWire.java");
